@@ -121,7 +121,8 @@ public final class ReadGraph {
     }
 
     public int walks() throws IllegalStateException {
-        if (!greatest.find()) {
+        if (edges.shape() != STRONG || !greatest.find()) {
+            greatest.count = 0;
             throw new IllegalStateException("too many walks");
         }
         return greatest.count;
@@ -249,7 +250,7 @@ public final class ReadGraph {
             if (lengths[other] == lengths[read]) {
                 return other < read && packed[other] == packed[read];
             }
-            // No round is gone when the other read is shorter.
+            // Not once when the other read is shorter.
             for (int behind = lengths[other] - lengths[read]; behind >= 0; behind--) {
                 if (lowest(packed[other] >> 2 * behind, lengths[read]) == packed[read]) {
                     return true;
@@ -432,17 +433,9 @@ public final class ReadGraph {
             return rows[k * LONGEST_WALK + i];
         }
 
-        /** Whether there are not too many; else there are none afterwards. */
+        /** Finds them in a strong graph: whether there are not too many. */
         private boolean find() {
             count = 0;
-            if (edges.shape() == STRONG && findAll()) {
-                return true;
-            }
-            count = 0;
-            return false;
-        }
-
-        private boolean findAll() {
             int steps = MOST_STEPS;
             for (int first = 0; first < edges.count; first++) {
                 length = 0;
@@ -460,19 +453,19 @@ public final class ReadGraph {
             boolean grew = false;
             for (int steps = most; steps > 0; steps--) {
                 int e = nextBehind();
-                if (e >= 0 && length == LONGEST_WALK) {
-                    return -1;
-                }
                 if (e >= 0) {
+                    if (length == LONGEST_WALK) {
+                        return -1;
+                    }
                     stepOn(e);
                     grew = false;
-                    continue;
+                } else {
+                    if (!grew && !hasBefore() && !keepTrail()) {
+                        return -1;
+                    }
+                    length--;
+                    grew = true;
                 }
-                if (!grew && !hasBefore() && !keepTrail()) {
-                    return -1;
-                }
-                length--;
-                grew = true;
                 if (length == 0) {
                     return steps;
                 }
@@ -495,7 +488,6 @@ public final class ReadGraph {
                     return e;
                 }
             }
-            next[length - 1] = edges.firstOut[end + 1];
             return -1;
         }
 

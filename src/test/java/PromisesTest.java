@@ -343,6 +343,7 @@ public final class PromisesTest {
         for (int n : new int[] {LOW, -1, 0, 9, HIGH}) {
             Check.same("12: safe(0, " + n + ")", Check.ARGUMENT, () -> graph.safe(0, n));
         }
+        Check.same("12: nine edges, whatever the bytes", Check.ARGUMENT, () -> ring().safe(0x0102030001020300L, 9));
         for (long edges : new long[] {4, 72, 128, 255}) {
             Check.same("12: no edge " + edges, Check.ARGUMENT, () -> graph.safe(edges, 1));
         }
@@ -386,6 +387,14 @@ public final class PromisesTest {
         Check.same("13: no walks then", Check.ELEMENT, () -> dense.walk(0, -1));
         Check.same("13: nothing spelled then", Check.ELEMENT, () -> dense.spelled(0, -1));
         Check.same("13: the edges are there still", 72, () -> dense.all());
+        Check.same("13: 72 walks again", Check.STATE, () -> dense.walks());
+        dense.clear();
+        dense.read(packed("0231"), 4);
+        dense.read(packed("1220"), 4);
+        dense.read(packed("1330"), 4);
+        dense.build(1);
+        Check.same("13: fewer walks after too many", 2, () -> dense.walks());
+        Check.same("13: the first of these", 2, () -> dense.walk(0, -1));
         ReadGraph one = ofFives(FIFTY_ONE);
         Check.same("13: 51 edges", 51, () -> one.build(1));
         Check.same("13: 51 walks", Check.STATE, () -> one.walks());
