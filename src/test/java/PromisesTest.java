@@ -380,6 +380,15 @@ public final class PromisesTest {
         graph.read(Graphs.packed("2230"), 4);
         Check.same("build(1) with one read more", 6, () -> graph.build(1));
         Check.edges(graph, new int[][] {{0, 1}, {1, 2}, {2, 3}, {3, 4}, {4, 0}, {4, 1}});
+        // The edge that led from 2 to 0 before must not make the walk unsafe now.
+        ReadGraph other = Graphs.twoRings();
+        other.clear();
+        other.read(Graphs.packed("0231"), 4);
+        other.read(Graphs.packed("1220"), 4);
+        other.read(Graphs.packed("1232"), 4);
+        Check.same("build(1) of other reads", 3, () -> other.build(1));
+        Check.edges(other, new int[][] {{0, 1}, {0, 2}, {1, 0}});
+        Check.same("safe in the new graph alone", true, () -> other.safe(0x0200, 2));
     }
 
     private static void buildOfFewReads() {

@@ -26,6 +26,7 @@ public final class TermsTest {
         singleEdgesAreSafe();
         unsafeAtOneNode();
         unsafeFromFirstToLastNode();
+        safeBesideOneEdge();
         unsafeByAWayOfOneEdge();
         safeWhenNoWayLeadsBack();
         safeWhenTheWayBeginsAsTheWalkGoesOn();
@@ -167,6 +168,12 @@ public final class TermsTest {
         ReadGraph ring = Graphs.built(3, "0123", "123", "1230", "2301", "3012", "0123");
         Check.same("a ring and two contained reads are a cycle", 1, () -> ring.kind());
         Check.edges(ring, new int[][] {{0, 2}, {2, 3}, {3, 4}, {4, 0}});
+        ReadGraph first = Graphs.built(3, "123", "0123", "1230", "2301", "3012");
+        Check.same("a ring, read 0 being contained", 1, () -> first.kind());
+        Check.edges(first, new int[][] {{1, 2}, {2, 3}, {3, 4}, {4, 1}});
+        ReadGraph last = Graphs.built(3, "0123", "1230", "2301", "3012", "000", "0000", "111", "1111", "123");
+        Check.same("read 8 being contained", true, () -> last.contained(8));
+        Check.same("way(8, 0)", Check.ARGUMENT, () -> last.way(8, 0));
     }
 
     private static void greatestOverlap() {
@@ -372,6 +379,16 @@ public final class TermsTest {
         Check.same("from 6 to 6", true, () -> graph.safe(0x0608000102030405L, 8));
         // Two edges lead from v1, and two lead to v3: p would be greater than q.
         Check.same("from 5 to 5", true, () -> graph.safe(0x0506080001020304L, 8));
+    }
+
+    private static void safeBesideOneEdge() {
+        Check.sentence("Terms: SAFE: for no numbers p and q with p <= q, p being q + 1");
+        // Edge 1 leads from 0 to 3, and so do 0 and 2 beside it.
+        ReadGraph graph = Graphs.built(1, "1220", "000", "1330", "001");
+        Check.edges(graph, new int[][] {{0, 1}, {0, 3}, {1, 3}, {2, 1}, {2, 3}, {3, 0}, {3, 2}});
+        Check.same("5 and 1", true, () -> graph.safe(0x0501, 2));
+        Check.same("5, 0 and 2", true, () -> graph.safe(0x050002, 3));
+        Check.same("1 and 5", false, () -> graph.safe(0x0105, 2));
     }
 
     private static void unsafeByAWayOfOneEdge() {
