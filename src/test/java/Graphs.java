@@ -17,6 +17,12 @@ final class Graphs {
         return graph;
     }
 
+    /** The walks are asked for; should that be refused, what is compared next tells. */
+    static ReadGraph found(ReadGraph graph) {
+        Check.answer(() -> graph.walks());
+        return graph;
+    }
+
     static int packed(String text) {
         int letters = 0;
         for (int k = 0; k < text.length(); k++) {

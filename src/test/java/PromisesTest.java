@@ -57,11 +57,6 @@ public final class PromisesTest {
         Check.end();
     }
 
-    private static ReadGraph found(ReadGraph graph) {
-        graph.walks();
-        return graph;
-    }
-
     private static ReadGraph nineOfFour() {
         return Graphs.of("0123", "1032", "2301", "3210", "0000", "1111", "2222", "3333", "0213");
     }
@@ -138,11 +133,11 @@ public final class PromisesTest {
 
     private static void readLeavesNoEdgesAndWalks() {
         Check.sentence("2: There are no edges and walks any more");
-        ReadGraph graph = found(Graphs.twoRings());
+        ReadGraph graph = Graphs.found(Graphs.twoRings());
         Check.same("a read more", 3, () -> graph.read(0, 3));
         Check.noGraph(graph);
         Check.same("way(0, 1)", false, () -> graph.way(0, 1));
-        ReadGraph contained = found(Graphs.twoRings());
+        ReadGraph contained = Graphs.found(Graphs.twoRings());
         Check.same("a contained read more", 3, () -> contained.read(Graphs.packed("023"), 3));
         Check.noGraph(contained);
         Check.same("way(0, 1) with a contained read more", false, () -> contained.way(0, 1));
@@ -181,7 +176,7 @@ public final class PromisesTest {
 
     private static void clearLeavesNothing() {
         Check.sentence("3: No reads, edges, walks");
-        ReadGraph graph = found(Graphs.twoRings());
+        ReadGraph graph = Graphs.found(Graphs.twoRings());
         graph.clear();
         Check.same("letter(0, -1)", Check.ARGUMENT, () -> graph.letter(0, -1));
         Check.same("contained(0)", Check.ARGUMENT, () -> graph.contained(0));
@@ -209,7 +204,7 @@ public final class PromisesTest {
         ReadGraph dense = Graphs.dense();
         dense.clear();
         Check.noGraph(dense);
-        ReadGraph graph = found(Graphs.fifty());
+        ReadGraph graph = Graphs.found(Graphs.fifty());
         graph.clear();
         Check.noGraph(graph);
         for (int number = 0; number < 9; number++) {
@@ -402,7 +397,7 @@ public final class PromisesTest {
 
     private static void buildLeavesNoWalks() {
         Check.sentence("7: There are no walks any more");
-        ReadGraph graph = found(Graphs.twoRings());
+        ReadGraph graph = Graphs.found(Graphs.twoRings());
         Check.same("build(1) again", 4, () -> graph.build(1));
         Check.noWalks(graph);
         Check.same("walks() again", 2, () -> graph.walks());
@@ -413,7 +408,7 @@ public final class PromisesTest {
 
     private static void buildRefusesLeast() {
         Check.sentence("7: IllegalArgumentException: least is not 1 .. 12");
-        ReadGraph graph = found(Graphs.twoRings());
+        ReadGraph graph = Graphs.found(Graphs.twoRings());
         for (int least : new int[] {LOW, -1, 0, 13, 14, HIGH}) {
             Check.same("build(" + least + ")", Check.ARGUMENT, () -> graph.build(least));
         }
@@ -673,12 +668,12 @@ public final class PromisesTest {
 
     private static void walkTellsEdges() {
         Check.sentence("14: Edge i of greatest walk k; i = -1: how many");
-        ReadGraph graph = found(Graphs.built(1, "1220", "000", "1330", "001"));
+        ReadGraph graph = Graphs.found(Graphs.built(1, "1220", "000", "1330", "001"));
         Check.walks(graph, new int[][] {{5, 0, 2}, {5, 1}, {6, 3, 2}, {6, 4}});
-        ReadGraph single = found(Graphs.triangle());
+        ReadGraph single = Graphs.found(Graphs.triangle());
         Check.same("the shortest", 1, () -> single.walk(5, -1));
         Check.same("its only edge", 5, () -> single.walk(5, 0));
-        ReadGraph longest = found(Graphs.shortened());
+        ReadGraph longest = Graphs.found(Graphs.shortened());
         Check.same("the longest", 16, () -> longest.walk(1, -1));
         Check.same("its last edge", 6, () -> longest.walk(1, 15));
     }
@@ -688,7 +683,7 @@ public final class PromisesTest {
         ReadGraph graph = Graphs.twoRings();
         Check.same("not found yet", Check.ELEMENT, () -> graph.walk(0, 0));
         Check.same("not found yet, how many", Check.ELEMENT, () -> graph.walk(0, -1));
-        graph.walks();
+        Graphs.found(graph);
         for (int k : new int[] {LOW, -1, 2, 3, 49, 50, HIGH}) {
             Check.same("walk(" + k + ", -1)", Check.ELEMENT, () -> graph.walk(k, -1));
             Check.same("walk(" + k + ", 0)", Check.ELEMENT, () -> graph.walk(k, 0));
@@ -697,32 +692,32 @@ public final class PromisesTest {
             Check.same("walk(" + k + ", 99)", Check.ELEMENT, () -> graph.walk(k, 99));
         }
         Check.same("walk(1, 0)", 1, () -> graph.walk(1, 0));
-        ReadGraph fifty = found(Graphs.fifty());
+        ReadGraph fifty = Graphs.found(Graphs.fifty());
         Check.same("walk(49, -1) of 50", true, () -> fifty.walk(49, -1) > 0);
         Check.same("walk(50, -1) of 50", Check.ELEMENT, () -> fifty.walk(50, -1));
     }
 
     private static void walkRefusesPlaces() {
         Check.sentence("14: IndexOutOfBoundsException: no such edge");
-        ReadGraph graph = found(Graphs.twoRings());
+        ReadGraph graph = Graphs.found(Graphs.twoRings());
         for (int i : new int[] {LOW, -3, -2, 2, 3, 39, 40, HIGH}) {
             Check.same("walk(0, " + i + ")", Check.INDEX, () -> graph.walk(0, i));
             Check.same("walk(1, " + i + ")", Check.INDEX, () -> graph.walk(1, i));
         }
         Check.same("walk(1, 1)", 3, () -> graph.walk(1, 1));
-        ReadGraph longest = found(Graphs.shortened());
+        ReadGraph longest = Graphs.found(Graphs.shortened());
         Check.same("walk(0, 15) of 15 edges", Check.INDEX, () -> longest.walk(0, 15));
         Check.same("walk(1, 16) of 16 edges", Check.INDEX, () -> longest.walk(1, 16));
     }
 
     private static void spelledTellsLetters() {
         Check.sentence("15: Letter i of what greatest walk k spells; i = -1: how many");
-        ReadGraph graph = found(Graphs.built(2, "20310", "10123320", "100020"));
+        ReadGraph graph = Graphs.found(Graphs.built(2, "20310", "10123320", "100020"));
         Check.spelled(graph, 0, "20310123320310");
         Check.spelled(graph, 1, "203100020310");
-        ReadGraph single = found(Graphs.triangle());
+        ReadGraph single = Graphs.found(Graphs.triangle());
         Check.spelled(single, 5, "03020");
-        ReadGraph longest = found(Graphs.shortened());
+        ReadGraph longest = Graphs.found(Graphs.shortened());
         String line = "20123" + "0111" + "30" + "332" + "22" + "033" + "1000" + "1320";
         Check.spelled(longest, 1, line + "120" + line.substring(2));
     }
@@ -732,7 +727,7 @@ public final class PromisesTest {
         ReadGraph graph = Graphs.twoRings();
         Check.same("not found yet", Check.ELEMENT, () -> graph.spelled(0, 0));
         Check.same("not found yet, how many", Check.ELEMENT, () -> graph.spelled(0, -1));
-        graph.walks();
+        Graphs.found(graph);
         for (int k : new int[] {LOW, -1, 2, 3, 49, 50, HIGH}) {
             Check.same("spelled(" + k + ", -1)", Check.ELEMENT, () -> graph.spelled(k, -1));
             Check.same("spelled(" + k + ", 0)", Check.ELEMENT, () -> graph.spelled(k, 0));
@@ -741,22 +736,21 @@ public final class PromisesTest {
             Check.same("spelled(" + k + ", 999)", Check.ELEMENT, () -> graph.spelled(k, 999));
         }
         Check.same("spelled(1, 0)", 0, () -> graph.spelled(1, 0));
-        ReadGraph fifty = found(Graphs.fifty());
+        ReadGraph fifty = Graphs.found(Graphs.fifty());
         Check.same("spelled(49, -1) of 50", true, () -> fifty.spelled(49, -1) > 5);
         Check.same("spelled(50, -1) of 50", Check.ELEMENT, () -> fifty.spelled(50, -1));
     }
 
     private static void spelledRefusesPlaces() {
         Check.sentence("15: As for walk: IndexOutOfBoundsException");
-        ReadGraph graph = found(Graphs.twoRings());
+        ReadGraph graph = Graphs.found(Graphs.twoRings());
         for (int i : new int[] {LOW, -3, -2, 10, 11, 999, HIGH}) {
             Check.same("spelled(0, " + i + ")", Check.INDEX, () -> graph.spelled(0, i));
             Check.same("spelled(1, " + i + ")", Check.INDEX, () -> graph.spelled(1, i));
         }
         Check.same("spelled(1, 9)", 1, () -> graph.spelled(1, 9));
-        ReadGraph longest = found(Graphs.shortened());
-        int length = longest.spelled(1, -1);
-        Check.same("the last letter of the longest", 0, () -> longest.spelled(1, length - 1));
-        Check.same("one behind it", Check.INDEX, () -> longest.spelled(1, length));
+        ReadGraph longest = Graphs.found(Graphs.shortened());
+        Check.same("the last letter of the longest", 0, () -> longest.spelled(1, 54));
+        Check.same("one behind it", Check.INDEX, () -> longest.spelled(1, 55));
     }
 }

@@ -22,16 +22,12 @@ public final class RefusedTest {
 
     /** Reads, one of them contained, with a graph and walks. */
     private static ReadGraph some() {
-        ReadGraph graph = Graphs.built(1, "0231", "1220", "1330", "023");
-        graph.walks();
-        return graph;
+        return Graphs.found(Graphs.built(1, "0231", "1220", "1330", "023"));
     }
 
     /** Nine reads with a graph and walks. */
     private static ReadGraph full() {
-        ReadGraph graph = Graphs.shortened();
-        graph.walks();
-        return graph;
+        return Graphs.found(Graphs.shortened());
     }
 
     private static void refused(Supplier<ReadGraph> made, String call, String due, Function<ReadGraph, Object> asked) {
@@ -173,7 +169,7 @@ public final class RefusedTest {
         graph.safe(0x00010203040506L, 7);
         graph.letter(8, -1);
         graph.contained(8);
-        graph.walks();
+        Graphs.found(graph);
         graph.kind();
         graph.all();
         Check.same("all that is told after questions", before, () -> picture(graph));

@@ -267,10 +267,16 @@ public final class TermsTest {
 
     private static void saidByAllThatThereWere() {
         Check.sentence("Terms: All edges that are said by others (of all that there were) are taken away");
-        // 0 to 3 is said by 0 to 1 and 1 to 3, or 0 to 2 and 2 to 3, of which 1 to 3 and 0 to 2 go too.
-        ReadGraph graph = Graphs.line();
-        Check.same("all()", 6, () -> graph.all());
-        Check.edges(graph, new int[][] {{0, 1}, {1, 2}, {2, 3}});
+        // First to last is said only by pairs of which one goes too: in whatever order they are looked at.
+        ReadGraph line = Graphs.line();
+        Check.same("all()", 6, () -> line.all());
+        Check.edges(line, new int[][] {{0, 1}, {1, 2}, {2, 3}});
+        ReadGraph firstLate = Graphs.built(1, "0112", "0011", "1122", "1223");
+        Check.same("all() with 1 first", 6, () -> firstLate.all());
+        Check.edges(firstLate, new int[][] {{0, 2}, {1, 0}, {2, 3}});
+        ReadGraph lastEarly = Graphs.built(1, "0011", "1223", "0112", "1122");
+        Check.same("all() with 1 last", 6, () -> lastEarly.all());
+        Check.edges(lastEarly, new int[][] {{0, 2}, {2, 3}, {3, 1}});
     }
 
     private static void edgesInOrder() {
@@ -307,7 +313,7 @@ public final class TermsTest {
         Check.same("each edge four times", true, () -> smallest.safe(0x0001000100010001L, 8));
         Check.same("each edge twice", true, () -> Graphs.ring().safe(0x0001020300010203L, 8));
         ReadGraph graph = Graphs.shortened();
-        graph.walks();
+        Graphs.found(graph);
         Check.same("the first edge of a greatest walk", 0, () -> graph.walk(0, 0));
         Check.same("comes again", 0, () -> graph.walk(0, 8));
     }
@@ -523,17 +529,17 @@ public final class TermsTest {
     private static void spelledLetters() {
         Check.sentence("Terms: What a walk SPELLS are the letters of v0, and for each edge the last letters");
         ReadGraph rings = Graphs.twoRings();
-        rings.walks();
+        Graphs.found(rings);
         Check.spelled(rings, 0, "0231220231");
         Check.spelled(rings, 1, "0231330231");
         ReadGraph single = Graphs.triangle();
-        single.walks();
+        Graphs.found(single);
         Check.spelled(single, 0, "01020");
         // The least and the greatest hang: edge 0 hangs 1, edges 3 and 4 hang 11.
         ReadGraph uneven = Graphs.built(1, "022222222221", "222222222213", "330", "310");
         Check.same("hang of edge 0", 1, () -> uneven.edge(0, 3));
         Check.same("hang of edge 3", 11, () -> uneven.edge(3, 3));
-        uneven.walks();
+        Graphs.found(uneven);
         Check.walks(uneven, new int[][] {{0, 1, 3, 0}, {0, 2, 4, 0}});
         Check.spelled(uneven, 0, "022222222221" + "3" + "30" + "22222222221" + "3");
         Check.spelled(uneven, 1, "022222222221" + "3" + "10" + "22222222221" + "3");
