@@ -56,7 +56,14 @@ public final class FaceTest {
             }
         }
         Check.same("all that are not private", new TreeSet<>(FACE), () -> open);
-        for (Method method : ReadGraph.class.getDeclaredMethods()) {
+        noneNamedSo(ReadGraph.class, names);
+        for (Class<?> inside : ReadGraph.class.getDeclaredClasses()) {
+            noneNamedSo(inside, names);
+        }
+    }
+
+    private static void noneNamedSo(Class<?> one, Set<String> names) {
+        for (Method method : one.getDeclaredMethods()) {
             if (Modifier.isPrivate(method.getModifiers())) {
                 Check.same("a public method named as the private " + method.getName(), false,
                         () -> names.contains(method.getName()));
